@@ -14,6 +14,7 @@ public final class AllTests {
         ShelfTest.run();
         TextFuzz.run();
         DayFuzz.run();
+        AnyCallFuzz.run();
         FaceTest.run(args.length > 0 ? args[0] : "src/main/java/LookAtClock.java");
         if (!Due.close()) System.exit(1);
     }

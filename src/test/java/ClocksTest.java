@@ -10,6 +10,7 @@ final class ClocksTest {
         sums();
         orders();
         seeded();
+        lateByOne();
         seededRefusals();
         judged();
         judgeRefusals();
@@ -54,6 +55,14 @@ final class ClocksTest {
     private static void sums() {
         LookAtClock x = Towns.of("w100 10 5;k22-20 0;k00-20 0;k13-20 0;");
         Due.is(26, "sum()", x.sum(), 146 + 220 + 175);
+        LookAtClock fewer = Towns.of("w100 10 5;k00+0 0;k00-20 0;");
+        fewer.image();
+        Towns.read(fewer, "k22-20 0;k13-20 0;");
+        Due.is(26, "of four", fewer.sum(), 220 + 146 + 175);
+        Due.is(27, "of four", fewer.order(), 1320);
+        fewer.restore();
+        Due.is(26, "of two again", fewer.sum(), 220);
+        Due.is(27, "of two again", fewer.order(), 10);
         Due.is(26, "of none", Towns.of("w100 10 5;").sum(), 0);
     }
 
@@ -99,6 +108,14 @@ final class ClocksTest {
         Due.is(28, call + ", the greatest", x.seeded(0, n, seed, 1), greatest);
         Due.is(28, call + ", late", x.seeded(0, n, seed, 2), late);
         Due.is(28, call + ", the drift stays", x.drift(0), drift);
+    }
+
+    /** Up as late as AT, one comes late by its WALK, however it reckons. */
+    private static void lateByOne() {
+        LookAtClock x = Towns.of("w100 1 5;k00+0 100;");
+        Due.is(28, "late by one minute, all", x.seeded(0, 3, 1, 0), 15);
+        Due.is(28, "late by one minute, the greatest", x.seeded(0, 3, 1, 1), 5);
+        Due.is(28, "late by one minute, on how many", x.seeded(0, 3, 1, 2), 3);
     }
 
     private static String looker(int kind, int drift) {

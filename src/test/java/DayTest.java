@@ -133,6 +133,9 @@ final class DayTest {
         LookAtClock y = Towns.of("w100 0 1;w200 0 1;p100;k60+0 0;");
         Due.is(9, "at 100 for each WORK", y.day(0, 1), 2);
         Due.is(10, "look(0, 1)", y.look(0, 1), 100);
+        LookAtClock eight = Towns.of("w100 0 1;p1;p2;p3;p4;p5;p6;p7;p8;k60+0 0;");
+        Due.is(9, "the whole PLAN for one WORK", eight.day(0, 1), 8);
+        Due.is(11, "and then off in time", eight.comes(0, 0), 100);
         LookAtClock z = Towns.of("w10 59 0;w20 59 0;w30 59 0;p719;k60-20 0;");
         Due.is(9, "719 is far", z.day(0, 1), 0);
         LookAtClock last = Towns.of("w700 0 1;w710 0 1;w719 59 1;p719;k60-20 0;");

@@ -109,6 +109,9 @@ final class ShelfTest {
         elementsAre(x, 0, 1, 1, 2, 3, 4);
         Due.is(37, "to its own ahead", x.copy(0, 1, 0, 0, 4), 4);
         elementsAre(x, 0, 1, 2, 3, 4, 4);
+        Due.is(37, "all of it", x.copy(1, 0, 0, 2, 3), 3);
+        elementsAre(x, 0, 1, 2, 6, 4, 5);
+        Due.is(37, "all to all", x.copy(1, 0, 1, 0, 3), 3);
         Due.is(37, "none, at the ends", x.copy(0, 5, 1, 3, 0), 0);
         elementsAre(x, 1, 6, 4, 5);
     }
@@ -132,6 +135,10 @@ final class ShelfTest {
         }
         elementsAre(x, 0, 1, 2, 3);
         elementsAre(x, 1, 4, 5, 6);
+        x.row(5, 1, 3);
+        x.keep(5, 1, 0);
+        Due.is(37, "a looker where a row was", x.copy(0, 0, 5, 0, 1), -12);
+        Due.is(37, "from where a row was", x.copy(5, 0, 0, 0, 1), -12);
     }
 
     private static void skills() {

@@ -146,6 +146,7 @@ final class TownTest {
             Due.is(6, "EARLY of " + i, x.looker(i, 3), early[i]);
         }
         Due.is(6, "EARLY of a TOLD", y.looker(0, 3), 9);
+        Due.is(6, "KIND of a TOLD", y.looker(0, 0), 6);
         Due.is(6, "KIND of a SELLER", y.looker(1, 0), 7);
         Due.is(6, "EARLY of a SELLER", y.looker(1, 3), 0);
         Due.is(6, "looker(6, 0)", x.looker(6, 0), -1);
