@@ -8,7 +8,8 @@ import java.util.Random;
 
 /** Any calls with any numbers, 512 on an object: only element throws, and only what the document tells. */
 final class AnyCallFuzz {
-    private static final int OBJECTS = 400;
+    private static final int OBJECTS = 600;
+    private static final int MOST_CALLS = 512;
     private static final int[] EDGES = {Integer.MIN_VALUE, Integer.MIN_VALUE + 1, -721, -1, 719, 720, 100, 101, 65536,
         Integer.MAX_VALUE - 1, Integer.MAX_VALUE};
     private static final String[] TEXTS = {"w100 10 5;w719 59 9;", "k49-20 0;k65+20 60;", "p0;p60;p719;", "l1;", "k77+3 1;", "w1"};
@@ -28,8 +29,12 @@ final class AnyCallFuzz {
     private static void callMany(List<Method> calls, Random random) {
         LookAtClock x = new LookAtClock();
         boolean asTold = true;
-        for (int i = 0; i < 512; i++) {
-            if (random.nextInt(40) == 0) Towns.read(x, TEXTS[random.nextInt(TEXTS.length)]);
+        for (int made = 0; made < MOST_CALLS; made++) {
+            String text = TEXTS[random.nextInt(TEXTS.length)];
+            if (random.nextInt(40) == 0 && made + text.length() + 2 < MOST_CALLS) {
+                Towns.read(x, text);
+                made += text.length() + 2;
+            }
             Method call = calls.get(random.nextInt(calls.size()));
             Object[] numbers = new Object[call.getParameterCount()];
             for (int k = 0; k < numbers.length; k++) numbers[k] = number(random);

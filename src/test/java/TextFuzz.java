@@ -62,7 +62,7 @@ final class TextFuzz {
         return spoilt.toString();
     }
 
-    private static int dueOf(String text) {
+    static int dueOf(String text) {
         Matcher whole = TOWN.matcher(text);
         if (!whole.matches()) return -1000 - firstWrong(text);
         return dueOfNumbers(text);
