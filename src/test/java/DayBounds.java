@@ -282,6 +282,11 @@ final class DayBounds {
         Days.looks(full, 0, 1, 2, 3, 4, 5, 6, 7, 8);
         Days.looks(full, 1, 8);
         Days.looks(full, 2);
+        LookAtClock early = Towns.of("p1;p2;p3;p4;p5;p6;p7;p8;w100 0 1;k60+0 0;k60+20 0;");
+        Days.looks(early, 0, 1, 2, 3, 4, 5, 6, 7, 8);
+        Days.comes(early, 0, 100);
+        // From 8 on it is fast: 77 + 23 is 100.
+        Days.comes(early, 1, 77);
         // A look sets it right at once: at 92 it knows that 85 is over.
         LookAtClock y = Towns.of("w100 10 5;p92;k65-20 0;");
         Days.comes(y, 0, 102);

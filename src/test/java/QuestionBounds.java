@@ -328,7 +328,8 @@ final class QuestionBounds {
         Due.is(28, "two WORKS a DAY", Towns.of("w100 1 0;w101 1 0;k00+0 100;").seeded(0, 4, 0, 2), 4);
         Due.is(28, "by one minute", Towns.of("w100 1 0;k00+0 100;").seeded(0, 4, 0, 2), 4);
         Due.is(28, "by none", Towns.of("w100 0 0;k00+0 100;").seeded(0, 4, 0, 2), 0);
-        Due.is(28, "all three of none", Towns.of("k00+0 100;").seeded(0, 4, 0, 0), 0);
+        LookAtClock free = Towns.of("k00+0 100;");
+        for (int what = 0; what < 3; what++) Due.is(28, "without WORKS, what " + what, free.seeded(0, 20, 0, what), 0);
     }
 
     private static void draws() {
@@ -404,6 +405,13 @@ final class QuestionBounds {
         Due.is(29, "short, though its last is skipped", x.judge(0, 0), 2);
         Towns.putRow(x, 0, 1, 20, 61, 92);
         Due.is(29, "wrong ahead of short", x.judge(0, 0), 1);
+        LookAtClock atNought = Towns.of("w100 10 5;p0;k60+0 0;");
+        for (int sort = 0; sort < 3; sort++) {
+            atNought.row(0, sort, 0);
+            Due.is(29, "short of a look at 0", atNought.judge(0, 0), 0);
+            atNought.row(0, sort, 1);
+            Due.is(29, "a look at 0", atNought.judge(0, 0), -4);
+        }
     }
 
     private static void judgedLong() {
@@ -415,6 +423,8 @@ final class QuestionBounds {
         Due.is(29, "long by two", x.judge(0, 0), 4);
         Towns.putRow(x, 0, 1, 20, 60, 93, 240, 300);
         Due.is(29, "wrong ahead of long", x.judge(0, 0), 2);
+        Towns.putRow(x, 0, 1, 20, 60, 92, 240, -4);
+        Due.is(29, "long by a -4", x.judge(0, 0), 4);
         Towns.putRow(x, 0, 1, 0);
         Due.is(29, "long where there is none", x.judge(1, 0), 0);
         x.row(0, 1, 100);

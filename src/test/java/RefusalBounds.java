@@ -318,6 +318,23 @@ final class RefusalBounds {
         refused(37, -13, "copy", EMPTY, 0, INTS, 0, 1);
         Due.is(37, "none", full().copy(INTS, 0, EMPTY, 0, 0), 0);
         Due.is(37, "all", full().copy(INTS, 0, INTS, 0, 3), 3);
+        copied(0, 1, 2, new int[] {7, 7, 8});
+        copied(1, 0, 2, new int[] {8, 9, 9});
+        copied(2, 0, 1, new int[] {9, 8, 9});
+        copied(0, 0, 3, new int[] {7, 8, 9});
+        copied(3, 3, 0, new int[] {7, 8, 9});
+        LookAtClock x = full();
+        x.row(NOTHING, 2, 4);
+        Due.is(37, "to another SHELF", x.copy(INTS, 0, NOTHING, 1, 3), 3);
+        for (int i = 0; i < 4; i++) Due.is(37, "element(5, " + i + ")", Towns.elementOf(x, NOTHING, i), i == 0 ? 0 : 6 + i);
+        for (int i = 0; i < 3; i++) Due.is(37, "element(2, " + i + ")", Towns.elementOf(x, INTS, i), 7 + i);
+    }
+
+    /** Within the ROW of 7, 8, 9: what it holds then. */
+    private static void copied(int from, int to, int n, int[] due) {
+        LookAtClock x = full();
+        Due.is(37, Calls.told("copy", INTS, from, INTS, to, n), x.copy(INTS, from, INTS, to, n), n);
+        for (int i = 0; i < due.length; i++) Due.is(37, "element(2, " + i + ")", Towns.elementOf(x, INTS, i), due[i]);
     }
 
     private static void skills() {

@@ -10,6 +10,7 @@ final class ShelfBounds {
         skills();
         plan();
         shelves();
+        oneThingAtATime();
         sorts();
         sizes();
         zeroAtFirst();
@@ -77,6 +78,25 @@ final class ShelfBounds {
         }
     }
 
+    private static void oneThingAtATime() {
+        Due.says("each hold nothing (at first), a LOOKER, a ROW.");
+        LookAtClock x = Towns.of("k29+0 0;");
+        x.keep(0, 1, 0);
+        x.row(0, 2, 2);
+        Due.is(38, "a ROW in place of a LOOKER, skill(0)", x.skill(0), -12);
+        Due.is(39, "a ROW in place of a LOOKER, toss(0)", x.toss(0), -12);
+        x.put(0, 0, 8);
+        x.keep(0, 1, 0);
+        Due.is(36, "a LOOKER in place of a ROW, element(0, 0)", Towns.elementOf(x, 0, 0), BAD_STATE);
+        Due.is(35, "a LOOKER in place of a ROW, put(0, 0, 9)", x.put(0, 0, 9), -12);
+        Due.is(38, "a LOOKER in place of a ROW, skill(0)", x.skill(0), 5);
+        x.row(0, 1, 1);
+        Due.is(36, "a new ROW in place of it", Towns.elementOf(x, 0, 0), 0);
+        Due.is(36, "of its own size", Towns.elementOf(x, 0, 1), BAD_STATE);
+        Due.is(33, "keep(0, 0, 0)", x.keep(0, 0, 0), 0);
+        Due.is(36, "nothing in place of a ROW", Towns.elementOf(x, 0, 0), BAD_STATE);
+    }
+
     private static void sorts() {
         Due.says("A ROW has a SORT (0 bytes, 1 shorts, 2 ints)");
         LookAtClock x = new LookAtClock();
@@ -114,6 +134,7 @@ final class ShelfBounds {
         for (int i = 0; i < 100; i++) x.put(0, i, i + 1);
         x.row(0, 1, 50);
         for (int i = 0; i < 50; i++) Due.is(36, "of a new one, element(0, " + i + ")", Towns.elementOf(x, 0, i), 0);
+        Due.is(36, "of a new one, behind its end", Towns.elementOf(x, 0, 50), BAD_STATE);
         x.row(0, 2, 100);
         for (int i = 0; i < 100; i++) Due.is(36, "of the next, element(0, " + i + ")", Towns.elementOf(x, 0, i), 0);
     }

@@ -8,6 +8,7 @@ final class TermBounds {
     }
 
     static void run() {
+        newObject();
         minutes();
         hours();
         laws();
@@ -25,6 +26,19 @@ final class TermBounds {
         wakes();
         thoughts();
         wakeKnowsTheTime();
+    }
+
+    private static void newObject() {
+        Due.says("`LookAtClock()`: No WORKS, no LOOKERS.");
+        LookAtClock x = new LookAtClock();
+        for (int what = 0; what < 5; what++) Due.is(1, "count(" + what + ")", x.count(what), 0);
+        Due.is(1, "work(0, 0)", x.work(0, 0), -1);
+        Due.is(1, "looker(0, 0)", x.looker(0, 0), -1);
+        Due.is(1, "day(0, 0)", x.day(0, 0), -1);
+        Due.is(1, "sum()", x.sum(), 0);
+        Due.is(1, "order()", x.order(), 0);
+        Due.is(1, "restore()", x.restore(), -3);
+        Due.is(1, "image()", x.image(), 0);
     }
 
     private static void minutes() {
@@ -160,9 +174,10 @@ final class TermBounds {
     private static void eightKinds() {
         Due.says("of KINDS: 0 LOOKER; 1 NEVER under LOOKER; 2 CLOCK under LOOKER; 3 CHEAP under CLOCK; "
             + "4 BEST under CLOCK; 5 SHARE under CLOCK; 6 TOLD under LOOKER; 7 SELLER under CHEAP");
+        for (int kind = 0; kind < 8; kind++) {
+            Due.is(6, "KIND " + kind, Towns.of("k" + kind + "0+0 0;").looker(0, 0), kind);
+        }
         LookAtClock x = Towns.of("k00+0 0;k70+0 0;");
-        Due.is(6, "the least KIND", x.looker(0, 0), 0);
-        Due.is(6, "the greatest KIND", x.looker(1, 0), 7);
         Due.is(2, "KIND 8", Towns.read(x, "k80+0 0;"), -2000);
         Due.is(2, "KIND 9", Towns.read(x, "k90+0 0;"), -2000);
         Due.is(32, "two came", x.count(1), 2);
