@@ -36,7 +36,9 @@ final class RefusalBounds {
         elements();
         copies();
         skills();
+        tosses();
         firstOfSeveral();
+        lessByABillion();
     }
 
     /** Two WORKS, two LOOKERS, a PLAN of two, law 1; all on SHELVES that can be; THE IMAGE of less. */
@@ -206,6 +208,15 @@ final class RefusalBounds {
     }
 
     private static void clocks() {
+        Due.says("MINUTES at which the other one is cheaper.");
+        Due.is(24, "otherCheaper()", full().otherCheaper(), 60);
+        Due.is(24, "of an empty town", new LookAtClock().otherCheaper(), 60);
+        Due.says("`int sum()`: SUM.");
+        Due.is(26, "sum()", full().sum(), full().day(0, 0) + full().day(1, 0));
+        Due.is(26, "of an empty town", new LookAtClock().sum(), 0);
+        Due.says("`int order()`: ORDER (digits).");
+        Due.is(27, "order()", full().order(), full().day(0, 0) <= full().day(1, 0) ? 10 : 1);
+        Due.is(27, "of an empty town", new LookAtClock().order(), 0);
         Due.says("The cheaper PRICE of TWO CLOCKS. -1.");
         refusedAt(0, NO_MINUTES, 23, -1, "cheaper", 0);
         Due.says("BY LAW. -1.");
@@ -224,6 +235,14 @@ final class RefusalBounds {
     }
 
     private static void images() {
+        Due.says("THE IMAGE is taken: how many LOOKERS.");
+        LookAtClock town = new LookAtClock();
+        for (int k = 0; k < 6; k++) {
+            Due.is(30, "of " + k, town.image(), k);
+            Towns.read(town, "k00+0 0;");
+        }
+        Due.is(30, "of six", town.image(), 6);
+        Due.is(31, "six again", town.restore(), 6);
         Due.says("THE IMAGE is RESTORED: how many LOOKERS. -3: there is none.");
         LookAtClock x = Towns.of("w100 10 5;k22-20 0;l2;");
         Due.is(31, "there is none", x.restore(), -3);
@@ -342,18 +361,26 @@ final class RefusalBounds {
         refusedAt(0, NO_SHELVES, 38, -1, "skill", 0);
         refused(38, -11, "skill", NOTHING);
         refusedAt(0, new int[] {BYTES, SHORTS, INTS, EMPTY, Towns.TEXT_SHELF}, 38, -12, "skill", 0);
-        Due.says("of SELLER ones 200 plus their SKILL, in place of all that (its number, too). "
+    }
+
+    private static void tosses() {
+        Due.says("The FAILURE of the LOOKER on SHELF d is thrown, and caught: its number; of BEST ones 100 more; "
+            + "of SELLER ones 200 plus their SKILL, in place of all that (its number, too). "
             + "-1, -11, -12 (a ROW); -15: TOLD ones, and any with FIGURE 0, have none.");
         refusedAt(0, NO_SHELVES, 39, -1, "toss", 0);
         refused(39, -11, "toss", NOTHING);
         refusedAt(0, new int[] {BYTES, SHORTS, INTS, EMPTY, Towns.TEXT_SHELF}, 39, -12, "toss", 0);
         refused(39, -15, "toss", TOLD);
         refused(39, -15, "toss", WITHOUT_FIGURE);
-        LookAtClock x = Towns.of("k01+0 0;k01+0 0;k01+0 0;k01+0 0;k41+0 0;k71+0 0;");
-        int[] due = {0, 1, 2, 3, 104, 214};
-        for (int k = 0; k < 6; k++) {
-            x.keep(0, 1, k);
-            Due.is(39, "toss of LOOKER " + k, x.toss(0), due[k]);
+        int[] ofFigureNine = {0, 0, 0, 0, 100, 0, -15, 254};
+        for (int kind = 0; kind < 8; kind++) {
+            LookAtClock x = new LookAtClock();
+            for (int k = 0; k < 6; k++) Towns.read(x, "k" + kind + "9+0 0;");
+            for (int k = 0; k < 6; k++) {
+                x.keep(k, 1, k);
+                int due = kind < 6 ? ofFigureNine[kind] + k : ofFigureNine[kind];
+                Due.is(39, "KIND " + kind + ", LOOKER " + k, x.toss(k), due);
+            }
         }
     }
 
@@ -381,5 +408,19 @@ final class RefusalBounds {
         refused(10, -1, "look", 2, 99);
         refused(17, -1, "waits", 719, 21);
         refused(20, -1, "nine", 720, 1);
+    }
+
+    private static void lessByABillion() {
+        Due.says("-1 no such thing, a number out of range, or not as told; -2 no room; -3 it can't be as things stand; -4 none; "
+            + "-11 to -15; where numbers that may be below 0 are answered (told at the call), 1000000000 less.");
+        LookAtClock x = Towns.of("w100 10 5;k00-1 0;k20+0 0;");
+        Due.is(7, "a DRIFT of -1", x.drift(0), -1);
+        Due.is(7, "no such LOOKER", x.drift(2), BELOW);
+        Due.is(14, "a COST more by 1", x.pays(1), -1);
+        Due.is(14, "no such LOOKER", x.pays(2), BELOW);
+        Due.is(8, "no such LOOKER", x.thinks(2, 0, 0), BELOW);
+        Due.is(6, "no such LOOKER, where none is below 0", x.looker(2, 0), -1);
+        Due.is(31, "as things stand", x.restore(), -3);
+        Due.is(10, "none", x.look(0, 0), -4);
     }
 }

@@ -25,6 +25,7 @@ final class TermBounds {
         drifts();
         wakes();
         thoughts();
+        cutTowardNought();
         wakeKnowsTheTime();
     }
 
@@ -224,6 +225,19 @@ final class TermBounds {
             Due.is(8, "thinks(" + c[0] + ", " + c[1] + ", " + c[2] + ")", x.thinks(c[0], c[1], c[2]), c[3]);
         }
         Due.is(8, "a look behind the MINUTE", x.thinks(0, 101, 100), BELOW);
+    }
+
+    private static void cutTowardNought() {
+        Due.says("\"a by b, cut\" is a divided by b, toward 0");
+        LookAtClock x = Towns.of("k00-7 0;k00+7 0;l1;");
+        // 8 times 7 by 60 is none, 9 times 7 by 60 is one; 17 times one, 18 times two.
+        int[][] calls = {{8, 8, 8}, {9, 8, 10}, {17, 16, 18}, {18, 16, 20}};
+        for (int[] c : calls) {
+            Due.is(8, "slow at " + c[0], x.thinks(0, 0, c[0]), c[1]);
+            Due.is(8, "fast at " + c[0], x.thinks(1, 0, c[0]), c[2]);
+        }
+        Due.is(3, "price(79)", x.price(79), 2);
+        Due.is(3, "price(80)", x.price(80), 3);
     }
 
     private static void wakeKnowsTheTime() {
