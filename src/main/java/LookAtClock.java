@@ -378,7 +378,9 @@ public final class LookAtClock {
     public int row(int d, int sort, int n) {
         if (!isShelf(d) || sort < BYTES || sort > INTS || n > MOST_ELEMENTS) return NO_SUCH;
         if (n < 0) return BELOW_SIZE;
-        heldRows[d].begin(sort, n);
+        Row row = heldRows[d];
+        if (row == null) return NO_SUCH;
+        row.begin(sort, n);
         held[d] = HOLDS_ROW;
         return 0;
     }
@@ -394,7 +396,7 @@ public final class LookAtClock {
 
     public long element(int d, int i) throws IllegalArgumentException, IllegalStateException {
         if (!isShelf(d)) throw new IllegalArgumentException("no such shelf");
-        if (held[d] != HOLDS_ROW) throw new IllegalStateException("no row");
+        if (!holdsRow(d)) throw new IllegalStateException("no row");
         Row row = heldRows[d];
         if (!row.hasPlace(i)) throw new IllegalStateException("no such place");
         return row.valueAt(i);
@@ -403,7 +405,7 @@ public final class LookAtClock {
     public int copy(int d, int i, int e, int j, int n) {
         if (!isShelf(d) || !isShelf(e)) return NO_SUCH;
         if (held[d] == HOLDS_NOTHING || held[e] == HOLDS_NOTHING) return NOTHING_HELD;
-        if (held[d] != HOLDS_ROW || held[e] != HOLDS_ROW) return OTHER_KIND;
+        if (!holdsRow(d) || !holdsRow(e)) return OTHER_KIND;
         Row from = heldRows[d];
         Row to = heldRows[e];
         if (from.sort != to.sort) return OTHER_KIND;
@@ -456,8 +458,12 @@ public final class LookAtClock {
     private int refusalOfRow(int d, int sort) {
         if (!isShelf(d)) return NO_SUCH;
         if (held[d] == HOLDS_NOTHING) return NOTHING_HELD;
-        if (held[d] != HOLDS_ROW) return OTHER_KIND;
+        if (!holdsRow(d)) return OTHER_KIND;
         return sort == ANY_SORT || heldRows[d].sort == sort ? 0 : OTHER_KIND;
+    }
+
+    private boolean holdsRow(int d) {
+        return isShelf(d) && held[d] == HOLDS_ROW && heldRows[d] != null;
     }
 
     /** 0 if a shelf holds a looker. */

@@ -21,8 +21,10 @@ public final class AllTests {
         ClocksTest.run();
         ImageTest.run();
         ShelfTest.run();
+        ReadmeTest.run();
         TextFuzz.run();
         DayFuzz.run();
+        RunFuzz.run();
         AnyCallFuzz.run();
         FaceTest.run(args.length > 0 ? args[0] : "src/main/java/LookAtClock.java");
         if (!Due.close()) System.exit(1);

@@ -63,12 +63,13 @@ final class TextFuzz {
     }
 
     static int dueOf(String text) {
-        Matcher whole = TOWN.matcher(text);
-        if (!whole.matches()) return -1000 - firstWrong(text);
-        return dueOfNumbers(text);
+        int wrong = firstWrong(text);
+        return wrong >= 0 ? -1000 - wrong : dueOfNumbers(text);
     }
 
-    private static int firstWrong(String text) {
+    /** The place of the first byte with which no TOWN can go on; -1 if there is none. */
+    static int firstWrong(String text) {
+        if (TOWN.matcher(text).matches()) return -1;
         for (int size = 1; size <= text.length(); size++) {
             Matcher start = TOWN.matcher(text.substring(0, size));
             if (!start.matches() && !start.hitEnd()) return size - 1;
